@@ -19,6 +19,7 @@ final class FaultTest {
         restartFaults();
         strayBytes();
         whatIsFine();
+        nothingStaysOfAnother();
         Due.end();
     }
 
@@ -244,6 +245,12 @@ final class FaultTest {
         two.scan(0, 0, 0, 10).data("00000 00000").segment(0xDD, 0, 1);
         data("a run beyond the interval", two.scan(1, 63, 0, 10), ac(0x10) + "0", 6, 2);
         two = Stream.begun().frame(0xC2, 8, 16, 8, 0x11).dcTable(0).acTable(0).scan(0, 0, 0, 10).data("00000 00000");
+        Stream four = Stream.begun().frame(0xC2, 8, 32, 8, 0x11).dcTable(0).acTable(0).scan(0, 0, 0, 10);
+        four.data("00000".repeat(4)).segment(0xDD, 0, 2);
+        data("from the middle of an interval on", four.scan(1, 1, 0, 10), ac(0x01) + "1" + ac(0x10) + "0", 6, 3);
+        Stream three = Stream.begun().frame(0xC2, 8, 24, 8, 0x11).dcTable(0).acTable(0).scan(0, 0, 0, 10);
+        three.data("00000".repeat(3)).segment(0xDD, 0, 2).scan(1, 63, 0, 10).data(ac(0x10) + "0").bytes(255, 0xD0);
+        data("a run beyond the end of a short interval", three, ac(0x10) + "0", 6, 2);
         data("a run from the second on", two.scan(1, 2, 0, 10), ac(0x11) + "1" + ac(0x10) + "0", 6, 3);
     }
 
@@ -302,6 +309,7 @@ final class FaultTest {
         withDc().bytes(255, 0xD7).refused("RST 7 behind the data", 8, from);
         withDc().bytes(255, 255, 255, 0xD7).refused("more FF and RST 7", 8, from);
         withDc().bytes(255, 255, 0).refused("more FF and 0", 8, from);
+        withDc().bytes(255, 0xD8).refused("another FF D8", 2, from + 1);
         withDc().ended().bytes(255).refused("a byte behind the end", 8, from + 2);
         withDc().ended().ended().refused("the end twice", 8, from + 2);
         Stream.oneBlock().ended().bytes(0, 0).refused("behind an end without scans", 8, Stream.oneBlock().length() + 2);
@@ -324,5 +332,47 @@ final class FaultTest {
         interval.scan(0, 0, 0, 10).data("00000 00000").ended().taken("DRI 0 ends intervals", 1);
         Stream full = Stream.begun().frame(0xC2, 8, 8, 8, 0x11).segment(0xC4, table(0, 19, 2)).scan(0, 0, 0, 10);
         full.data("1").ended().taken("all ones is a code", 1);
+    }
+
+    private static void again(String what, ScanDesk d, Stream s, int kind, int place) {
+        Due.is(what + " read()", s.readBy(d), -kind);
+        Due.is(what + " errorAt()", d.errorAt(), place);
+    }
+
+    /** What an earlier stream told (tables, intervals, numbers, runs, a fault) is of no meaning for the next one. */
+    private static void nothingStaysOfAnother() {
+        Stream three = Stream.begun().segment(0xDD, 0, 1).frame(0xC2, 8, 8, 8, 0x11, 0x11, 0x11).dcTable(0).acTable(0);
+        ScanDesk d = three.ended().taken("three", 0);
+        Stream bare = Stream.begun().frame(0xC2, 8, 8, 8, 0x11);
+        again("no tables", d, bare.scan(0, 0, 0, 10), 5, 16);
+        again("no table of the bands", d, Stream.begun().frame(0xC2, 8, 8, 8, 0x11).dcTable(0).scan(0, 0, 0, 10)
+            .data("00000").scan(1, 63, 0, 10), 5, 2 + 13 + 52 + 11 + 1);
+        Stream other = Stream.oneBlock();
+        int at = other.length() + 1;
+        again("no such component", d, other.scan(0, 0, 0, 20), 5, at);
+        again("no SOF", d, Stream.begun().dcTable(0).scan(0, 0, 0, 10), 5, 2 + 52 + 1);
+        Stream two = Stream.begun().frame(0xC2, 8, 16, 8, 0x11).dcTable(0).acTable(0);
+        two.scan(0, 0, 0, 10).data("00010 11 00000");
+        Due.is("no interval", two.ended().readBy(d), 1);
+        Due.is("no place", d.errorAt(), -1);
+        Due.is("3", d.coefficient(0, 1, 0), 3);
+        Due.is("no second component", d.component(1, 0) + d.known(1, 0), -2);
+        Due.no("nothing to put there", d.put(1, 0, 0, 1));
+        Stream cut = Stream.begun().frame(0xC2, 8, 16, 8, 0x11).dcTable(0).acTable(0).scan(0, 0, 0, 10);
+        cut.data("00000 00000").scan(1, 1, 1, 10).data(ac(0x01) + "1" + ac(0x01) + "1").scan(1, 1, 0x10, 10);
+        cut.bytes(0x10, 0x3F, 0x10);
+        int end = cut.length();
+        again("stray behind a run", d, cut, 8, end - 1);
+        Stream run = Stream.begun().frame(0xC2, 8, 16, 8, 0x11).dcTable(0).acTable(0).scan(0, 0, 0, 10);
+        run.data("00000 00000").scan(1, 1, 1, 10).data(ac(0x01) + "1" + ac(0x01) + "1").scan(1, 1, 0x10, 10);
+        run.bytes(0x10);
+        end = run.length();
+        again("cut within a run", d, run, 1, end);
+        again("the next begins anew", d, Stream.begun().bytes(0), 2, 2);
+        Stream bands = Stream.begun().frame(0xC2, 8, 16, 8, 0x11).dcTable(0).acTable(0).scan(0, 0, 0, 10);
+        bands.data("00000 00000").scan(1, 1, 0, 10).data(ac(0x01) + "1" + ac(0x01) + "0");
+        Due.is("bands", bands.ended().readBy(d), 2);
+        Due.is("1", d.coefficient(0, 0, 1), 1);
+        Due.is("-1", d.coefficient(0, 1, 1), -1);
     }
 }

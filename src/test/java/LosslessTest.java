@@ -198,7 +198,7 @@ final class LosslessTest {
                 d.scan(2, 8 - p, 0, 0, 0);
             }
             d.restart(9 * (p % 3));
-            d.write();
+            Due.yes("write", d.write() > 0);
             again("rounds " + p, d, p % 2 == 0 ? 1 : 2);
             for (int i = 0; i < 126; i++) {
                 Due.is("rounds " + p + " " + i, d.sample(i % 2, i / 2 % 9, i / 18), values[i]);

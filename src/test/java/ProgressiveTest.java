@@ -19,6 +19,11 @@ final class ProgressiveTest {
         tablesAnew();
         tooLarge();
         tooLong();
+        edgesOfBands();
+        onePlaceAgain();
+        greatestDifference();
+        longCodes();
+        exactLengths();
         Due.end();
     }
 
@@ -387,5 +392,120 @@ final class ProgressiveTest {
             Due.is("what was written stays", d.look(9), n);
             Due.is("its bytes too", d.out(n - 1), 0xD9);
         }
+    }
+
+    /** Fifteen zeros need no sixteens; something new at SE is told behind sixteens. */
+    private static void edgesOfBands() {
+        ScanDesk d = desk(8, 8, 1, 1, 1);
+        d.put(0, 0, 16, 5);
+        d.put(0, 0, 63, -2);
+        d.scan(1, 0, 0, 0, 0);
+        d.scan(1, 1, 63, 0, 2);
+        d.scan(1, 1, 63, 2, 1);
+        d.write();
+        data("fifteen zeros", firstTwo(d), HEAD + 11, ac(0xF1) + "1" + ac(0));
+        String again = ac(0xF0) + "0" + ac(0xF0) + ac(0xF0) + ac(0xD1) + "0";
+        int third = d.look(9) - 2 - new Stream().data(again).length() - 10;
+        Due.is("the third scan", d.out(third + 1), 0xDA);
+        data("new at SE", d, third, again);
+        again("edges", d, 3);
+        Due.is("4", d.coefficient(0, 0, 16), 4);
+        Due.is("-2", d.coefficient(0, 0, 63), -2);
+    }
+
+    private static ScanDesk firstTwo(ScanDesk from) {
+        ScanDesk d = desk(8, 8, 1, 1, 1);
+        d.put(0, 0, 16, from.coefficient(0, 0, 16));
+        d.put(0, 0, 63, from.coefficient(0, 0, 63));
+        d.scan(1, 0, 0, 0, 0);
+        d.scan(1, 1, 63, 0, 2);
+        d.write();
+        return d;
+    }
+
+    /** A zero, a bit that waits and something new, each alone in its band. */
+    private static void onePlaceAgain() {
+        ScanDesk d = desk(24, 8, 1, 1, 1);
+        d.put(0, 1, 9, 3);
+        d.put(0, 2, 9, 1);
+        d.scan(1, 0, 0, 0, 0);
+        d.scan(1, 9, 9, 0, 1);
+        d.scan(1, 9, 9, 1, 0);
+        d.write();
+        String bits = ac(0x10) + "0" + "1" + ac(0x01) + "1";
+        data("one place", d, d.look(9) - 2 - 3 - 10, bits);
+        again("one place", d, 3);
+        Due.is("0", d.coefficient(0, 0, 9), 0);
+        Due.is("3", d.coefficient(0, 1, 9), 3);
+        Due.is("1", d.coefficient(0, 2, 9), 1);
+    }
+
+    private static void greatestDifference() {
+        ScanDesk d = desk(16, 8, 1, 1, 1);
+        d.put(0, 0, 0, -16383);
+        d.put(0, 1, 0, 16383);
+        d.scan(1, 0, 0, 0, 0);
+        d.write();
+        data("size 15", d, HEAD, "01110" + "0".repeat(14) + "01111" + Stream.low(32766, 15));
+        again("size 15", d, 1);
+        Due.is("16383", d.coefficient(0, 1, 0), 16383);
+    }
+
+    private static void longCodes() {
+        int[] table = new int[19];
+        table[1] = 1;
+        table[16] = 1;
+        table[17] = 0;
+        table[18] = 2;
+        Stream s = Stream.begun().frame(0xC2, 8, 16, 8, 0x11).segment(0xC4, table);
+        s.scan(0, 0, 0, 10).data("0" + "1000000000000000" + "10").ended();
+        ScanDesk d = s.taken("sixteen bits", 1);
+        Due.is("0", d.coefficient(0, 0, 0), 0);
+        Due.is("2", d.coefficient(0, 1, 0), 2);
+    }
+
+    /** What is written has just 6000 bytes or one more, just 12000 or one more. */
+    private static void exactLengths() {
+        int[][] short6000 = {{1, 1, 0}, {2, 16, 0}, {17, 18, 1}};
+        int[][] long6001 = {{1, 1, 8}, {2, 25, 6}};
+        int[][] short12000 = {{1, 1, 9}, {2, 62, 7}};
+        int[][] long12001 = {{1, 21, 0}, {22, 40, 0}, {41, 43, 7}};
+        ScanDesk d = thousands();
+        Due.is("6000", lengthOf(d, 1, short6000), 6000);
+        Due.is("take 6000", d.take(), 6000);
+        Due.is("6001", lengthOf(d, 1, long6001), 6001);
+        Due.is("take 6001", d.take(), -1);
+        Due.is("12001", lengthOf(d, 2, long12001), -3);
+        Due.is("6001 stay", d.look(9), 6001);
+        Due.is("12000", lengthOf(d, 2, short12000), 12000);
+        Due.is("the last byte", d.out(11999), 0xD9);
+        Due.is("none behind it", d.out(12000), -1);
+    }
+
+    /** Whole bands of so many components, then some of the next one. */
+    private static int lengthOf(ScanDesk d, int whole, int[][] bands) {
+        d.clear();
+        d.scan(7, 0, 0, 0, 0);
+        for (int c = 0; c < whole; c++) {
+            d.scan(1 << c, 1, 63, 0, 0);
+        }
+        for (int[] b : bands) {
+            d.scan(1 << whole, b[0], b[1], 0, b[2]);
+        }
+        return d.write();
+    }
+
+    /** 25 blocks of three components, whose bands are all 8192. */
+    private static ScanDesk thousands() {
+        int[] table = new int[18];
+        table[0] = 16;
+        table[1] = 1;
+        table[17] = 1;
+        Stream s = Stream.begun().frame(0xC2, 8, 40, 40, 0x11, 0x11, 0x11).dcTable(0).segment(0xC4, table);
+        s.scan(0, 0, 0, 10, 20, 30).data("00000".repeat(75));
+        for (int c = 1; c <= 3; c++) {
+            s.scan(1, 63, 13, 10 * c).data("01".repeat(25 * 63));
+        }
+        return s.ended().taken("thousands", 4);
     }
 }

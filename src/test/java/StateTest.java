@@ -87,6 +87,13 @@ final class StateTest {
         Due.yes("anew", d.picture(1, 40, 40, 12, 3, 2, 2));
         Due.is("all 0", d.coefficient(2, 3, 9), 0);
         Due.is("empty script", d.look(7), 0);
+        d.put(2, 3, 9, 4);
+        Due.yes("once more", d.picture(1, 40, 40, 12, 3, 2, 2));
+        Due.is("all 0 once more", d.coefficient(2, 3, 9), 0);
+        Due.yes("and with one component", d.picture(1, 40, 40, 12, 1, 2, 2));
+        Due.yes("twice", d.picture(1, 40, 40, 12, 1, 2, 2));
+        Due.is("no second one", d.component(1, 0), -1);
+        Due.no("nor its blocks", d.put(1, 0, 0, 1));
         Due.yes("lossless 2 bits", d.picture(2, 40, 40, 2, 3, 1, 1));
         Due.yes("lossless 16 bits", d.picture(2, 40, 40, 16, 3, 1, 1));
     }
@@ -273,7 +280,7 @@ final class StateTest {
         Due.is("scans read stay", d.look(8), 3);
         Due.is("the place stays", d.errorAt(), 1);
         d.take();
-        d.read();
+        Due.is("read behind a fault", d.read(), 3);
         Due.is("no place without a fault", d.errorAt(), -1);
     }
 }
