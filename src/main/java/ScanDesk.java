@@ -1425,19 +1425,18 @@ public final class ScanDesk {
             append(code);
         }
 
+        /** Sixteen bits at once are the most, and seven may be held from before. */
         void bits(int value, int n) {
-            for (int i = n - 1; i >= 0; i--) {
-                held = held << 1 | (value >> i & 1);
-                filled++;
-                if (filled == 8) {
-                    append(held);
-                    if (held == 255) {
-                        append(0);
-                    }
-                    held = 0;
-                    filled = 0;
+            held = held << n | value & (1 << n) - 1;
+            filled += n;
+            for (; filled >= 8; filled -= 8) {
+                int whole = held >> filled - 8 & 255;
+                append(whole);
+                if (whole == 255) {
+                    append(0);
                 }
             }
+            held = held & (1 << filled) - 1;
         }
 
         void fillUp() {
