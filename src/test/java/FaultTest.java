@@ -44,6 +44,8 @@ final class FaultTest {
         Stream data = Stream.oneBlock().scan(0, 0, 0, 10);
         data.refused("no data", 1, data.length());
         data.bytes(0x7F).refused("data end", 1, data.length());
+        Stream code = Stream.oneBlock().scan(0, 0, 0, 10).bytes(0xF8);
+        code.refused("bytes end within a code that there is not", 1, code.length());
         Stream half = Stream.oneBlock().scan(0, 0, 0, 10).bytes(255);
         half.refused("data end behind FF", 1, half.length());
         Stream behind = withDc();

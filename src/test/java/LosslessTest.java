@@ -8,6 +8,8 @@ final class LosslessTest {
         halfOfAll();
         interleaved();
         restarts();
+        oneColumn();
+        pointsInRows();
         wholeRows();
         beyondItsBits();
         numbersAsDecoded();
@@ -138,6 +140,41 @@ final class LosslessTest {
         again("restarts", d, 1);
         for (int i = 0; i < 8; i++) {
             Due.is("sample " + i, d.sample(0, i % 2, i / 2), 10 + i * i);
+        }
+    }
+
+    private static void oneColumn() {
+        ScanDesk d = new ScanDesk();
+        d.picture(2, 1, 4, 8, 1, 1, 1);
+        for (int y = 0; y < 4; y++) {
+            d.set(0, 0, y, 10 + y);
+        }
+        d.scan(1, 1, 0, 0, 0);
+        d.write();
+        data("by what is above", d, HEAD + 10, number(10 - 128) + number(1) + number(1) + number(1));
+        d.restart(2);
+        d.write();
+        byte[] half = new Stream().data(number(12 - 128) + number(1)).all();
+        for (int i = 0; i < half.length; i++) {
+            Due.is("behind a RST " + i, d.out(d.look(9) - 2 - half.length + i), half[i] & 255);
+        }
+    }
+
+    private static void pointsInRows() {
+        ScanDesk d = new ScanDesk();
+        d.picture(2, 2, 2, 8, 2, 1, 1);
+        int[] values = {50, 31, 100, 77};
+        for (int i = 0; i < 4; i++) {
+            d.set(1, i % 2, i / 2, values[i]);
+        }
+        d.scan(2, 4, 0, 0, 2);
+        d.write();
+        data("POINT 2 in rows", d, HEAD + 3 + 10,
+            number(12 - 32) + number(7 - 12) + number(25 - 12) + number(19 - (25 + 7 - 12)));
+        again("POINT 2 in rows", d, 1);
+        for (int i = 0; i < 4; i++) {
+            Due.is("sample " + i, d.sample(1, i % 2, i / 2), values[i] / 4 * 4);
+            Due.is("not told " + i, d.sample(0, i % 2, i / 2), 0);
         }
     }
 
