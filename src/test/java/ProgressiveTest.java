@@ -23,7 +23,6 @@ final class ProgressiveTest {
         onePlaceAgain();
         greatestDifference();
         longCodes();
-        exactLengths();
         Due.end();
     }
 
@@ -462,50 +461,5 @@ final class ProgressiveTest {
         ScanDesk d = s.taken("sixteen bits", 1);
         Due.is("0", d.coefficient(0, 0, 0), 0);
         Due.is("2", d.coefficient(0, 1, 0), 2);
-    }
-
-    /** What is written has just 6000 bytes or one more, just 12000 or one more. */
-    private static void exactLengths() {
-        int[][] short6000 = {{1, 1, 0}, {2, 16, 0}, {17, 18, 1}};
-        int[][] long6001 = {{1, 1, 8}, {2, 25, 6}};
-        int[][] short12000 = {{1, 1, 9}, {2, 62, 7}};
-        int[][] long12001 = {{1, 21, 0}, {22, 40, 0}, {41, 43, 7}};
-        ScanDesk d = thousands();
-        Due.is("6000", lengthOf(d, 1, short6000), 6000);
-        Due.is("take 6000", d.take(), 6000);
-        Due.is("6001", lengthOf(d, 1, long6001), 6001);
-        Due.is("take 6001", d.take(), -1);
-        Due.is("12001", lengthOf(d, 2, long12001), -3);
-        Due.is("6001 stay", d.look(9), 6001);
-        Due.is("12000", lengthOf(d, 2, short12000), 12000);
-        Due.is("the last byte", d.out(11999), 0xD9);
-        Due.is("none behind it", d.out(12000), -1);
-    }
-
-    /** Whole bands of so many components, then some of the next one. */
-    private static int lengthOf(ScanDesk d, int whole, int[][] bands) {
-        d.clear();
-        d.scan(7, 0, 0, 0, 0);
-        for (int c = 0; c < whole; c++) {
-            d.scan(1 << c, 1, 63, 0, 0);
-        }
-        for (int[] b : bands) {
-            d.scan(1 << whole, b[0], b[1], 0, b[2]);
-        }
-        return d.write();
-    }
-
-    /** 25 blocks of three components, whose bands are all 8192. */
-    private static ScanDesk thousands() {
-        int[] table = new int[18];
-        table[0] = 16;
-        table[1] = 1;
-        table[17] = 1;
-        Stream s = Stream.begun().frame(0xC2, 8, 40, 40, 0x11, 0x11, 0x11).dcTable(0).segment(0xC4, table);
-        s.scan(0, 0, 0, 10, 20, 30).data("00000".repeat(75));
-        for (int c = 1; c <= 3; c++) {
-            s.scan(1, 63, 13, 10 * c).data("01".repeat(25 * 63));
-        }
-        return s.ended().taken("thousands", 4);
     }
 }

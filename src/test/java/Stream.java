@@ -28,6 +28,11 @@ final class Stream {
         return this;
     }
 
+    Stream all(byte[] values) {
+        bytes.write(values, 0, values.length);
+        return this;
+    }
+
     int length() {
         return bytes.size();
     }
