@@ -750,7 +750,7 @@ public final class ScanDesk {
         }
 
         int owner(int unit) {
-            return unit >= 0 && inMcu > 0 ? owners[unit % inMcu] : 0;
+            return unit >= 0 && inMcu > 0 && inMcu <= MOST_IN_MCU ? owners[unit % inMcu] : 0;
         }
 
         /** Units from one restart to the next; all of them, where no interval is. */
@@ -952,6 +952,9 @@ public final class ScanDesk {
         }
 
         private void readUnit(int way, int cell, int owner, int since) {
+            if (owner < 0 || owner >= MOST_COMPONENTS) {
+                return;
+            }
             switch (way) {
                 case DC_FIRST:
                     readDc(cell, owner);
@@ -1499,6 +1502,9 @@ public final class ScanDesk {
         }
 
         private void writeUnit(int way, int cell, int owner, int since) {
+            if (owner < 0 || owner >= MOST_COMPONENTS) {
+                return;
+            }
             switch (way) {
                 case DC_FIRST:
                     writeDc(cell, owner);
