@@ -251,17 +251,21 @@ final class CodingEdgesTest {
         againIs("new at 63", ac(0xF0).repeat(3) + ac(0xE1) + "1", 1, new int[] {0, 63, 1});
         againIs("none new behind", ac(0) + "1", 1, new int[] {0, 60, 3});
         againIs("a run ahead of sixteens", ac(0x10) + "0" + ac(0xF0) + ac(0x01) + "1" + ac(0), 3, new int[] {2, 17, 1});
-        againIs("a bit among sixteen zeros", ac(0xF0) + "1" + ac(0x01) + "1" + ac(0), 1, new int[] {0, 9, -3}, new int[] {0, 18, 1});
-        againIs("a bit behind sixteen zeros", ac(0xF0) + ac(0x01) + "1" + "0" + ac(0), 1, new int[] {0, 17, 2}, new int[] {0, 18, 1});
+        againIs("a bit among sixteen zeros", ac(0xF0) + "1" + ac(0x01) + "1" + ac(0), 1, new int[] {0, 9, -3},
+            new int[] {0, 18, 1});
+        againIs("a bit behind sixteen zeros", ac(0xF0) + ac(0x01) + "1" + "0" + ac(0), 1, new int[] {0, 17, 2},
+            new int[] {0, 18, 1});
         againIs("a run and its bits ahead of sixteens", ac(0x00) + "1" + ac(0xF0) + "0" + ac(0x01) + "0" + ac(0), 2,
             new int[] {0, 1, 3}, new int[] {1, 1, 2}, new int[] {1, 18, -1});
     }
 
     /** "figures G.7 to G.9": zeros are counted anew behind something new, bits come behind the next code. */
     private static void againNewOnes() {
-        againIs("two side by side", ac(0x01) + "1" + ac(0x01) + "0" + ac(0), 1, new int[] {0, 1, 1}, new int[] {0, 2, -1});
+        againIs("two side by side", ac(0x01) + "1" + ac(0x01) + "0" + ac(0), 1, new int[] {0, 1, 1},
+            new int[] {0, 2, -1});
         againIs("zeros between", ac(0x21) + "1" + ac(0x31) + "0" + ac(0), 1, new int[] {0, 3, 1}, new int[] {0, 7, -1});
-        againIs("bits ahead and between", ac(0x11) + "1" + "1" + ac(0x11) + "1" + "0" + ac(0) + "1", 1, new int[] {0, 2, 3},
+        againIs("bits ahead and between", ac(0x11) + "1" + "1" + ac(0x11) + "1" + "0" + ac(0) + "1", 1,
+            new int[] {0, 2, 3},
             new int[] {0, 3, 1}, new int[] {0, 4, -2}, new int[] {0, 6, 1}, new int[] {0, 63, -3});
         againIs("larger ones tell their last bit", ac(0) + "1011", 1, new int[] {0, 1, 16383}, new int[] {0, 2, -16382},
             new int[] {0, 3, 5}, new int[] {0, 4, -7});
@@ -269,13 +273,15 @@ final class CodingEdgesTest {
 
     /** Sixteen zeros leave the sixteenth 0 when they are read again, and end at SE at the most. */
     private static void againReadSixteens() {
-        Stream s = Stream.oneBlock().scan(0, 0, 0, 10).data("00000").scan(1, 17, 1, 10).data(Stream.low(0x01, 8) + "1" + ac(0));
+        Stream s = Stream.oneBlock().scan(0, 0, 0, 10).data("00000").scan(1, 17, 1, 10)
+            .data(Stream.low(0x01, 8) + "1" + ac(0));
         s.scan(1, 17, 0x10, 10).data(Stream.low(0xF0, 8) + "1").ended();
         ScanDesk d = s.taken("up to SE", 3);
         for (int k = 1; k < 64; k++) {
             Due.is("place " + k, d.coefficient(0, 0, k), k == 1 ? 3 : 0);
         }
-        s = Stream.oneBlock().scan(0, 0, 0, 10).data("00000").scan(1, 18, 1, 10).data(Stream.low(0xF0, 8) + Stream.low(1, 8) + "0" + ac(0));
+        s = Stream.oneBlock().scan(0, 0, 0, 10).data("00000").scan(1, 18, 1, 10)
+            .data(Stream.low(0xF0, 8) + Stream.low(1, 8) + "0" + ac(0));
         s.scan(1, 18, 0x10, 10).data(Stream.low(0xF0, 8) + Stream.low(0x01, 8) + "1" + "1").ended();
         d = s.taken("behind them", 3);
         for (int k = 1; k < 64; k++) {
@@ -288,7 +294,8 @@ final class CodingEdgesTest {
         againIs("bits of two blocks", ac(0x10) + "0" + "10", 2, new int[] {0, 5, 3}, new int[] {1, 9, -2});
         againIs("from the middle of a block", ac(0x01) + "1" + ac(0x10) + "1" + "1" + "0" + "1", 3, new int[] {0, 1, 1},
             new int[] {0, 3, 3}, new int[] {1, 1, 2}, new int[] {2, 63, 3});
-        againIs("ended ahead of what is new", ac(0x00) + "1" + ac(0x01) + "1" + ac(0x00), 2, new int[] {0, 1, 3}, new int[] {1, 1, 1});
+        againIs("ended ahead of what is new", ac(0x00) + "1" + ac(0x01) + "1" + ac(0x00), 2, new int[] {0, 1, 3},
+            new int[] {1, 1, 1});
         ScanDesk d = again(3, new int[] {0, 1, 3}, new int[] {1, 1, 2}, new int[] {2, 1, 3});
         d.restart(2);
         d.write();
@@ -377,7 +384,8 @@ final class CodingEdgesTest {
                 + number(90 - second[p - 1]) + number(85) + number(101 - third[p - 1]) + number(103 - fourth[p - 1]));
             d.restart(3);
             d.write();
-            last("behind a RESTART", d, number(10 - 128) + number(10) + number(20), number(15 - 128) + number(185) + number(-110),
+            last("behind a RESTART", d, number(10 - 128) + number(10) + number(20), number(15 - 128) + number(185)
+                + number(-110),
                 number(100 - 128) + number(1) + number(2));
             readAgain(d, 1);
             Due.is("the last", d.sample(0, 2, 2), 103);
@@ -436,7 +444,8 @@ final class CodingEdgesTest {
     /** The most samples that a picture has, in one scan, to the last one. */
     private static void losslessGreatest() {
         int[] table = {0, 1, 1, 0, 0, 0, 0, 0, 0, 0, 0, 0, 0, 0, 0, 0, 0, 0, 1};
-        Stream s = Stream.begun().frame(0xC3, 16, 40, 40, 0x11, 0x11, 0x11).segment(0xC4, table).scan(1, 0, 0, 10, 20, 30);
+        Stream s = Stream.begun().frame(0xC3, 16, 40, 40, 0x11, 0x11, 0x11).segment(0xC4, table)
+            .scan(1, 0, 0, 10, 20, 30);
         ScanDesk d = s.data("0".repeat(4797) + "101".repeat(3)).ended().taken("4800 samples", 1);
         for (int c = 0; c < 3; c++) {
             Due.is("the last but one", d.sample(c, 38, 39), 32768);

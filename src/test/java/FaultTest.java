@@ -139,7 +139,8 @@ final class FaultTest {
     }
 
     private static void tableOrder() {
-        Stream s = Stream.begun().segment(0xC4, table(0, 273, 0, 0, 0, 0, 0, 0, 0, 255, 1)).segment(0xC4, table(3, 19, 2));
+        Stream s = Stream.begun().segment(0xC4, table(0, 273, 0, 0, 0, 0, 0, 0, 0, 255, 1))
+            .segment(0xC4, table(3, 19, 2));
         s.refused("256 symbols can be", 1, s.length());
         Stream.begun().frame(0xC2, 8, 8, 8, 0x11).segment(0xC4, table(0, 17)).scan(0, 0, 0, 10).bytes(0, 0, 0)
             .refused("a table without codes", 6, 2 + 13 + 21 + 10 + 2);
@@ -156,7 +157,8 @@ final class FaultTest {
         Stream.oneBlock().scan(0, 0, 0, 10, 10).refused("twice", 5, at);
         Stream.oneBlock().segment(0xDA, 1, 10, 0x40, 0, 0, 0).refused("DC table 4", 5, at);
         Stream.oneBlock().segment(0xDA, 1, 10, 0x04, 0, 0, 0).refused("AC table 4", 5, at);
-        int[][] wrong = {{0, 1, 0}, {1, 0, 0}, {1, 64, 0}, {5, 4, 0}, {0, 0, 14}, {0, 0, 0x20}, {0, 0, 0x11}, {0, 0, 0x10}};
+        int[][] wrong = {{0, 1, 0}, {1, 0, 0}, {1, 64, 0}, {5, 4, 0}, {0, 0, 14}, {0, 0, 0x20}, {0, 0, 0x11},
+            {0, 0, 0x10}};
         for (int[] w : wrong) {
             Stream.oneBlock().scan(w[0], w[1], w[2], 10).refused("figures", 5, at);
         }

@@ -73,7 +73,8 @@ final class OracleTest {
                 Due.is("known(" + c + ", " + k + ")", d.known(c, k), o.known[c][k]);
             }
             for (int i = 0; i < across * down * 64; i++) {
-                Due.is("coefficient", d.coefficient(c, i / 64, i % 64), o.blocks[c][i / 64 / across][i / 64 % across][i % 64]);
+                Due.is("coefficient", d.coefficient(c, i / 64, i % 64),
+                    o.blocks[c][i / 64 / across][i / 64 % across][i % 64]);
             }
             for (int i = 0; o.kind == 2 && i < o.width * o.height; i++) {
                 Due.is("sample", d.sample(c, i % o.width, i / o.width), o.samples[c][i / o.width][i % o.width]);
@@ -160,7 +161,8 @@ final class OracleTest {
     }
 
     /** The stream with one more scan, if one can come; its data are random, cut where the oracle says they end. */
-    private static byte[] scan(ScanDesk desk, Stream s, boolean lossless, int bits, int count, int[] known, boolean[] told) {
+    private static byte[] scan(ScanDesk desk, Stream s, boolean lossless, int bits, int count, int[] known,
+        boolean[] told) {
         int ss = lossless ? 1 + below(7) : one(0, 0, 1 + below(63));
         int se = lossless || ss == 0 ? 0 : ss + below(64 - ss);
         int parts = lossless || ss == 0 ? 1 + below((1 << count) - 1) : 1 << below(count);

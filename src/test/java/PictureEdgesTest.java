@@ -2,7 +2,8 @@
 final class PictureEdgesTest {
     private static final int[] LENGTHS = {1, 2, 7, 8, 9, 15, 16, 17, 23, 24, 25, 31, 32, 33, 39, 40};
     private static final int[][] FACTORS = {
-        {0x11}, {0x22}, {0x21}, {0x12}, {0x11, 0x22}, {0x12, 0x21}, {0x21, 0x11, 0x11}, {0x11, 0x11, 0x22}, {0x11, 0x21, 0x12},
+        {0x11}, {0x22}, {0x21}, {0x12}, {0x11, 0x22}, {0x12, 0x21}, {0x21, 0x11, 0x11}, {0x11, 0x11, 0x22},
+            {0x11, 0x21, 0x12},
         {0x22, 0x22, 0x12}, {0x11, 0x11, 0x11},
     };
 
@@ -40,7 +41,8 @@ final class PictureEdgesTest {
             others &= factors[c] == 0x11;
         }
         if (others && factors.length > 0) {
-            boolean made = new ScanDesk().picture(kind, width, height, bits, factors.length, factors[0] >> 4, factors[0] & 15);
+            boolean made = new ScanDesk().picture(kind, width, height, bits, factors.length, factors[0] >> 4,
+                factors[0] & 15);
             Due.is(what + " picture()", made ? 1 : 0, can ? 1 : 0);
         }
     }
@@ -126,7 +128,8 @@ final class PictureEdgesTest {
                 for (int c = 0; c < factors.length; c++) {
                     int h = factors[c] >> 4;
                     int v = factors[c] & 15;
-                    int[] due = {h, v, up(width * h, hMax), up(height * v, vMax), h * up(width, 8 * hMax), v * up(height, 8 * vMax)};
+                    int[] due = {h, v, up(width * h, hMax), up(height * v, vMax), h * up(width, 8 * hMax),
+                        v * up(height, 8 * vMax)};
                     for (int what = 0; what < 6; what++) {
                         Due.is("component(" + c + ", " + what + ")", d.component(c, what), due[what]);
                     }
@@ -146,7 +149,8 @@ final class PictureEdgesTest {
                 for (int c = 0; c < factors.length; c++) {
                     ScanDesk d = Stream.begun().frame(0xC2, 8, width, height, factors).ended().taken("frame", 0);
                     int shown = up(d.component(c, 2), 8) * up(d.component(c, 3), 8);
-                    Stream s = Stream.begun().frame(0xC2, 8, width, height, factors).dcTable(0).scan(0, 0, 0, 10 * (c + 1));
+                    Stream s = Stream.begun().frame(0xC2, 8, width, height, factors).dcTable(0)
+                        .scan(0, 0, 0, 10 * (c + 1));
                     int from = s.length();
                     s.all(new Stream().data("00011 100".repeat(shown)).all());
                     Due.is("that many", s.bytes(0).readBy(d), -8);

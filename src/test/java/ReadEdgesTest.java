@@ -81,9 +81,11 @@ final class ReadEdgesTest {
         Stream data = Stream.begun().frame(0xC3, 8, 40, 40, 0x11).dcTable(0).scan(1, 0, 0, 10).data("00111 1010101");
         return new Stream[] {
             new Stream().all(Arrays.copyOf(all, all.length - 1)), new Stream().bytes(1),
-            Stream.begun().frame(0xC2, 8, 41, 8, 0x11), Stream.begun().segment(0xC4, 0, 3, 0, 0, 0, 0, 0, 0, 0, 0, 0, 0, 0, 0, 0, 0, 0),
+            Stream.begun().frame(0xC2, 8, 41, 8, 0x11), Stream.begun()
+                .segment(0xC4, 0, 3, 0, 0, 0, 0, 0, 0, 0, 0, 0, 0, 0, 0, 0, 0, 0),
             twoBlocks().bytes(0), data.ended(), Stream.begun().frame(0xC2, 8, 8, 8, 0x11).scan(0, 0, 0, 10),
-            Stream.begun().frame(0xC2, 8, 16, 8, 0x11).dcTable(0).segment(0xDD, 0, 1).scan(0, 0, 0, 10).data("00000").ended(),
+            Stream.begun().frame(0xC2, 8, 16, 8, 0x11).dcTable(0).segment(0xDD, 0, 1).scan(0, 0, 0, 10).data("00000")
+                .ended(),
         };
     }
 

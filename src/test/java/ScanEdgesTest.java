@@ -129,7 +129,8 @@ final class ScanEdgesTest {
         scan(d, s, -5, 2, 0, 0, 0, 5);
         scan(d, s, -5, 3, 0, 0, 0, 0);
         scan(d, s, 1, 1, 0, 0, 0, 0);
-        int[][] bands = {{1, 9, 1}, {1, 10, -5}, {10, 20, -5}, {11, 19, -5}, {15, 15, -5}, {20, 63, -5}, {21, 63, 1}, {1, 63, -5}};
+        int[][] bands = {{1, 9, 1}, {1, 10, -5}, {10, 20, -5}, {11, 19, -5}, {15, 15, -5}, {20, 63, -5}, {21, 63, 1},
+            {1, 63, -5}};
         for (int[] b : bands) {
             s = frame(1, 8, 1);
             d = withDc(s, 1, 0);
@@ -153,7 +154,8 @@ final class ScanEdgesTest {
                 scan(d, s, due, 1, 4, 6, ah, al);
             }
         }
-        int[][] bands = {{4, 4, 1}, {5, 5, 1}, {6, 6, 1}, {3, 4, -5}, {6, 7, -5}, {1, 63, -5}, {3, 3, -5}, {7, 7, -5}, {4, 6, 1}};
+        int[][] bands = {{4, 4, 1}, {5, 5, 1}, {6, 6, 1}, {3, 4, -5}, {6, 7, -5}, {1, 63, -5}, {3, 3, -5}, {7, 7, -5},
+            {4, 6, 1}};
         for (int[] b : bands) {
             Stream s = frame(1, 8, 1);
             ScanDesk d = withDc(s, 1, 2);
@@ -220,7 +222,8 @@ final class ScanEdgesTest {
     /** "The sum of H V of several components is 10 at most." */
     private static void tenBlocks() {
         int[][] frames = {
-            {0x22, 0x22, 0x22, 12}, {0x22, 0x22, 0x21, 10}, {0x12, 0x22, 0x22, 10}, {0x22, 0x22, 0x11, 9}, {0x22, 0x22, 8},
+            {0x22, 0x22, 0x22, 12}, {0x22, 0x22, 0x21, 10}, {0x12, 0x22, 0x22, 10}, {0x22, 0x22, 0x11, 9},
+                {0x22, 0x22, 8},
             {0x22, 4},
         };
         for (int[] f : frames) {
@@ -277,7 +280,8 @@ final class ScanEdgesTest {
         d.write();
         String row = "00001 1 00001 1";
         String dc = hex("00001 1" + row + "00010 10" + row + "00010 10" + row);
-        Due.written("nine blocks", d, HEAD + 3 + 10, dc + "FFDA00080101000101" + "00" + hex("00000001 1".repeat(9)) + "FFD9");
+        Due.written("nine blocks", d, HEAD + 3 + 10, dc + "FFDA00080101000101" + "00" + hex("00000001 1".repeat(9))
+            + "FFD9");
         d.take();
         Due.is("read", d.read(), 2);
         for (int b = 0; b < 16; b++) {
@@ -412,7 +416,8 @@ final class ScanEdgesTest {
             d.restart(n);
             Due.is("n " + n, d.write() > 0 ? 1 : d.write(), n % 4 == 0 ? 1 : -2);
         }
-        Stream late = Stream.begun().frame(0xC3, 8, 4, 1, 0x11, 0x11).dcTable(0).segment(0xDD, 0, 3).segment(0xDD, 255, 252);
+        Stream late = Stream.begun().frame(0xC3, 8, 4, 1, 0x11, 0x11).dcTable(0).segment(0xDD, 0, 3)
+            .segment(0xDD, 255, 252);
         late.scan(1, 0, 0, 10).data("00000".repeat(4)).segment(0xDD, 0, 1).ended().taken("only when a scan comes", 1);
     }
 }

@@ -67,7 +67,8 @@ final class StreamEdgesTest {
         for (int n = 0; n < 4; n++) {
             int[] more = new int[n];
             Arrays.fill(more, 255);
-            Stream s = Stream.begun().bytes(more).frame(0xC2, 8, 8, 8, 0x11).bytes(more).dcTable(0).bytes(more).segment(0xDD, 0, 0);
+            Stream s = Stream.begun().bytes(more).frame(0xC2, 8, 8, 8, 0x11).bytes(more).dcTable(0).bytes(more)
+                .segment(0xDD, 0, 0);
             s.bytes(more).scan(0, 0, 0, 10).data("00001 0").bytes(more).segment(0xFE).bytes(more).ended();
             Due.is("-1", s.taken(n + " more FF", 1).coefficient(0, 0, 0), -1);
         }
@@ -91,7 +92,8 @@ final class StreamEdgesTest {
             int from = s.length() - 4;
             boolean stray = code == 0 || code >= 0xD0 && code <= 0xD7;
             kind = stray || code == 0xD9 ? 8 : kind;
-            s.refused("code " + code + " behind the data", kind, passed ? from + 4 : stray ? from : code == 0xD9 ? from + 2 : from + 1);
+            s.refused("code " + code + " behind the data", kind, passed ? from + 4 : stray ? from : code == 0xD9
+                ? from + 2 : from + 1);
         }
     }
 
@@ -127,7 +129,8 @@ final class StreamEdgesTest {
         copy(s).segment(0xDA, 1, 1, 0, 0, 0, 0).refused("the place is no number", 5, s.length() + 1);
         int[][] twice = {{7, 7, 8}, {7, 8, 7}, {8, 7, 7}, {7, 7, 7}, {0, 0, 1}};
         for (int[] t : twice) {
-            Stream.begun().segment(0xC2, 8, 0, 8, 0, 8, 3, t[0], 0x11, 0, t[1], 0x11, 0, t[2], 0x11, 0).refused("twice", 3, 3);
+            Stream.begun().segment(0xC2, 8, 0, 8, 0, 8, 3, t[0], 0x11, 0, t[1], 0x11, 0, t[2], 0x11, 0)
+                .refused("twice", 3, 3);
         }
         Stream first = Stream.begun().frame(0xC2, 8, 8, 8, 0x11);
         copy(first).frame(0xC2, 8, 8, 8, 0x11).refused("a SOF behind another", 3, first.length() + 1);
@@ -152,7 +155,8 @@ final class StreamEdgesTest {
             s.refused("ahead of its codes " + head, can ? 4 : 3, can ? 6 : 3);
         }
         for (int n = 1; n < 17; n++) {
-            Stream.begun().segment(0xC4, Arrays.copyOf(table(0, 17, 3), n)).bytes(255, 255, 255).refused("counts lack", 3, 3);
+            Stream.begun().segment(0xC4, Arrays.copyOf(table(0, 17, 3), n)).bytes(255, 255, 255)
+                .refused("counts lack", 3, 3);
         }
     }
 
@@ -180,8 +184,10 @@ final class StreamEdgesTest {
         Stream.begun().segment(0xC4, table(0x13, 17 + 257, 0, 0, 0, 0, 0, 0, 0, 255, 2)).refused("257 symbols", 4, 6);
         s = Stream.begun().segment(0xC4, table(0, 17 + 256, 0, 0, 0, 0, 0, 0, 0, 0, 0, 0, 0, 0, 0, 0, 1, 255));
         s.refused("256 of 15 and 16 bits", 1, s.length());
-        Stream.begun().segment(0xC4, table(0, 17 + 257, 0, 0, 0, 0, 0, 0, 0, 0, 0, 0, 0, 0, 0, 0, 2, 255)).refused("257 of them", 4, 6);
-        Stream.begun().segment(0xC4, table(0, 17, 0, 0, 0, 0, 0, 0, 0, 255, 2)).refused("ahead of symbols' lacking", 4, 6);
+        Stream.begun().segment(0xC4, table(0, 17 + 257, 0, 0, 0, 0, 0, 0, 0, 0, 0, 0, 0, 0, 0, 0, 2, 255))
+            .refused("257 of them", 4, 6);
+        Stream.begun().segment(0xC4, table(0, 17, 0, 0, 0, 0, 0, 0, 0, 255, 2))
+            .refused("ahead of symbols' lacking", 4, 6);
         Stream.begun().segment(0xC4, table(0, 17)).refused("no codes at all", 1, 2 + 4 + 17);
     }
 
@@ -230,7 +236,8 @@ final class StreamEdgesTest {
 
     /** "1 the bytes end where one has to come (how many there are)": a stream cut behind each of its bytes. */
     private static void bytesEnd() {
-        Stream s = Stream.begun().segment(0xE0, 1, 2).frame(0xC2, 8, 16, 8, 0x11).dcTable(0).acTable(0).segment(0xDD, 0, 1).bytes(255);
+        Stream s = Stream.begun().segment(0xE0, 1, 2).frame(0xC2, 8, 16, 8, 0x11).dcTable(0).acTable(0)
+            .segment(0xDD, 0, 1).bytes(255);
         s.scan(0, 0, 0, 10).data("01111 111").bytes(0).data("00000").bytes(255, 0xD0).data("00000");
         byte[] all = s.bytes(255).ended().all();
         int[] starts = {2, 8, 21, 73, 349, 356, 999};
@@ -272,7 +279,8 @@ final class StreamEdgesTest {
             Stream told = copy(s).scan(0, 0, 0, c);
             told.refused("lacks only its data", 1, told.length());
         }
-        int[][] cant = {{}, {11}, {0}, {1}, {40}, {10, 10}, {20, 10}, {30, 20}, {30, 10}, {10, 30, 20}, {20, 10, 30}, {30, 20, 10},
+        int[][] cant = {{}, {11}, {0}, {1}, {40}, {10, 10}, {20, 10}, {30, 20}, {30, 10}, {10, 30, 20}, {20, 10, 30},
+            {30, 20, 10},
             {10, 20, 20}, {10, 10, 20}, {10, 20, 40}, {40, 10}, {10, 20, 30, 40}, {10, 20, 30, 30}};
         for (int[] c : cant) {
             copy(s).scan(0, 0, 0, c).refused("components " + Arrays.toString(c), 5, at);
@@ -283,12 +291,14 @@ final class StreamEdgesTest {
     /** "a table's number above 3; .. a table that it needs (DC: all but DC again and bands; AC: bands) and that wasn't told". */
     private static void scanHeadTables() {
         for (int chosen = 0; chosen < 256; chosen++) {
-            Stream s = Stream.begun().frame(0xC2, 8, 8, 8, 0x11).dcTable(2).acTable(1).segment(0xDA, 1, 10, chosen, 0, 0, 1);
+            Stream s = Stream.begun().frame(0xC2, 8, 8, 8, 0x11).dcTable(2).acTable(1)
+                .segment(0xDA, 1, 10, chosen, 0, 0, 1);
             boolean can = chosen >> 4 == 2 && (chosen & 15) < 4;
             s.refused("DC by " + chosen, can ? 1 : 5, can ? s.length() : s.length() - 9);
             s = Stream.begun().frame(0xC3, 8, 8, 8, 0x11).dcTable(2).acTable(1).segment(0xDA, 1, 10, chosen, 1, 0, 0);
             s.refused("lossless by " + chosen, can ? 1 : 5, can ? s.length() : s.length() - 9);
-            s = Stream.begun().frame(0xC2, 8, 8, 8, 0x11).dcTable(2).acTable(1).segment(0xDA, 1, 10, 0x20, 0, 0, 1).data("00000");
+            s = Stream.begun().frame(0xC2, 8, 8, 8, 0x11).dcTable(2).acTable(1).segment(0xDA, 1, 10, 0x20, 0, 0, 1)
+                .data("00000");
             Stream again = copy(s).segment(0xDA, 1, 10, chosen, 0, 0, 0x10);
             can = chosen >> 4 < 4 && (chosen & 15) < 4;
             again.refused("DC again by " + chosen, can ? 1 : 5, can ? again.length() : again.length() - 9);
@@ -303,17 +313,20 @@ final class StreamEdgesTest {
 
     /** Each component is read by the tables that it names itself, alone too. */
     private static void ownTables() {
-        int[] other = {3, 1, 0, 0, 0, 0, 0, 0, 0, 0, 0, 0, 0, 0, 0, 0, 0, 2, 0x13, 1, 0, 0, 0, 0, 0, 0, 0, 0, 0, 0, 0, 0, 0, 0, 0, 3};
+        int[] other = {3, 1, 0, 0, 0, 0, 0, 0, 0, 0, 0, 0, 0, 0, 0, 0, 0, 2, 0x13, 1, 0, 0, 0, 0, 0, 0, 0, 0, 0, 0, 0,
+            0, 0, 0, 0, 3};
         Stream s = Stream.begun().frame(0xC2, 8, 8, 8, 0x11, 0x11).dcTable(0).acTable(0).segment(0xC4, other);
         s.segment(0xDA, 2, 10, 0, 20, 0x30, 0, 0, 0).data("00010 11" + "0 10").scan(1, 1, 0, 10).data(ac(2) + "11");
         s.segment(0xDA, 1, 20, 0x03, 1, 1, 0).data("0 101").ended();
         ScanDesk d = s.taken("bands by their own", 3);
         Due.is("3 and 2", d.coefficient(0, 0, 0) * 10 + d.coefficient(1, 0, 0), 32);
         Due.is("3 and 5", d.coefficient(0, 0, 1) * 10 + d.coefficient(1, 0, 1), 35);
-        s = Stream.begun().frame(0xC2, 8, 8, 8, 0x11, 0x11).dcTable(0).segment(0xC4, other).scan(0, 0, 0, 10).data("00010 11");
+        s = Stream.begun().frame(0xC2, 8, 8, 8, 0x11, 0x11).dcTable(0).segment(0xC4, other).scan(0, 0, 0, 10)
+            .data("00010 11");
         s.segment(0xDA, 1, 20, 0x30, 0, 0, 0).data("0 10").ended();
         Due.is("the DC alone", s.taken("DC by its own", 2).coefficient(1, 0, 0), 2);
-        s = Stream.begun().frame(0xC3, 8, 1, 1, 0x11, 0x11).dcTable(0).segment(0xC4, other).scan(1, 0, 0, 10).data("00000");
+        s = Stream.begun().frame(0xC3, 8, 1, 1, 0x11, 0x11).dcTable(0).segment(0xC4, other).scan(1, 0, 0, 10)
+            .data("00000");
         s.segment(0xDA, 1, 20, 0x30, 1, 0, 0).data("0 10").ended();
         Due.is("a sample alone", s.taken("a sample by its own", 2).sample(1, 0, 0), 130);
     }
@@ -393,7 +406,8 @@ final class StreamEdgesTest {
                 fault("run " + run + " size " + size, withBand(63), 6, 1, ac(16 * run + size) + "1".repeat(20));
             }
             if (run < 15) {
-                ScanDesk d = fine("run " + run, withBand(63), 3, ac(16 * run + 1) + "1" + "1" + (run > 0 ? "1" : "") + ac(0)
+                ScanDesk d = fine("run " + run, withBand(63), 3, ac(16 * run + 1) + "1" + "1" + (run > 0 ? "1" : "")
+                    + ac(0)
                     + (run > 0 ? "" : "0"));
                 Due.is("behind " + run + " zeros", d.coefficient(0, 0, run == 0 ? 2 : run + 3), 1);
             }
@@ -403,7 +417,8 @@ final class StreamEdgesTest {
     }
 
     private static Stream blocks(int n, int interval) {
-        Stream s = Stream.begun().frame(0xC2, 8, 8 * n, 8, 0x11).dcTable(0).acTable(0).scan(0, 0, 0, 10).data("00000".repeat(n));
+        Stream s = Stream.begun().frame(0xC2, 8, 8 * n, 8, 0x11).dcTable(0).acTable(0).scan(0, 0, 0, 10)
+            .data("00000".repeat(n));
         return s.segment(0xDD, 0, interval);
     }
 
@@ -429,7 +444,8 @@ final class StreamEdgesTest {
             }
         }
         for (int size = 5; size < 15; size++) {
-            fault("of " + (1 << size), blocks(5, 0).scan(1, 63, 0, 10), 6, (8 + size + 7) / 8, ac(16 * size) + "0".repeat(size));
+            fault("of " + (1 << size), blocks(5, 0).scan(1, 63, 0, 10), 6, (8 + size + 7) / 8, ac(16 * size)
+                + "0".repeat(size));
             fault("again of " + (1 << size), withBand(63), 6, (8 + size + 7) / 8, ac(16 * size) + "0".repeat(size));
             int bytes = size > 8 ? 2 : 1;
             fault("its bits lack", withBand(63), 6, bytes, ac(16 * size) + "0".repeat(8 * bytes - 8), 255, 0xD9);
@@ -441,7 +457,8 @@ final class StreamEdgesTest {
         fault("two of an interval of one", blocks(4, 1).scan(1, 1, 0, 10), 6, 2, ac(0x10) + "0");
         fault("three of two", blocks(4, 2).scan(1, 1, 0, 10), 6, 2, ac(0x10) + "1");
         fault("two from the second of two on", blocks(4, 2).scan(1, 1, 0, 10), 6, 3, ac(0x01) + "1" + ac(0x10) + "0");
-        Stream s = blocks(5, 2).scan(1, 1, 0, 10).data(ac(0x10) + "0").bytes(255, 0xD0).data(ac(0x10) + "0").bytes(255, 0xD1);
+        Stream s = blocks(5, 2).scan(1, 1, 0, 10).data(ac(0x10) + "0").bytes(255, 0xD0).data(ac(0x10) + "0")
+            .bytes(255, 0xD1);
         fault("two of the one left", s, 6, 2, ac(0x10) + "0");
         fine("one of the one left", s, 2, ac(0));
         fine("an interval longer than all", blocks(5, 9).scan(1, 1, 0, 10), 2, ac(0x20) + "01");
@@ -576,7 +593,8 @@ final class StreamEdgesTest {
     /** "DRI DD: the RESTART interval"; "DRI 0 ends intervals", the latest counts, one told between scans too. */
     private static void intervalsTold() {
         Stream s = Stream.begun().segment(0xDD, 0, 7).frame(0xC2, 8, 16, 8, 0x11).dcTable(0).segment(0xDD, 0, 1);
-        s.scan(0, 0, 1, 10).data("00000").bytes(255, 0xD0).data("00000").segment(0xDD, 0, 0).scan(0, 0, 0x10, 10).data("11");
+        s.scan(0, 0, 1, 10).data("00000").bytes(255, 0xD0).data("00000").segment(0xDD, 0, 0).scan(0, 0, 0x10, 10)
+            .data("11");
         Due.is("1", copy(s).ended().taken("ended", 2).coefficient(0, 1, 0), 1);
         Stream most = Stream.begun().segment(0xDD, 255, 255).frame(0xC2, 8, 16, 8, 0x11).dcTable(0).scan(0, 0, 0, 10);
         fine("65535", most, 1, "00000 00000");
