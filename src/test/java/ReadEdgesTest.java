@@ -10,6 +10,7 @@ final class ReadEdgesTest {
         readTellsPicture();
         readFaultLeavesAllElse();
         readLongestTape();
+        readManyScans();
         errorAtPlaces();
         lookWithoutPicture();
         lookEdges();
@@ -127,9 +128,33 @@ final class ReadEdgesTest {
         other[5999] = 0;
         Due.is("another last byte", new Stream().all(other).readBy(d), -8);
         Due.is("FF 00 behind the data", d.errorAt(), 5998);
+        for (int last : new int[] {0, 255}) {
+            Stream cut = Stream.begun().frame(0xC2, 8, 16, 8, 0x11).dcTable(0).segment(0xEF, new int[6000 - 67 - 4 - 11]);
+            Due.is("the data end with the tape", cut.scan(0, 0, 0, 10).bytes(last).readBy(d), -1);
+            Due.is("6000 bytes", cut.length(), 6000);
+            Due.is("the next lacks", d.errorAt(), 6000);
+        }
         other[5999] = -1;
         Due.is("FF as the last byte", new Stream().all(other).readBy(d), -1);
         Due.is("the code lacks", d.errorAt(), 6000);
+    }
+
+    /** "how many scans": the 60 of the SCRIPT are no bound for reading. */
+    private static void readManyScans() {
+        Stream s = Stream.oneBlock().scan(0, 0, 2, 10).data("00000");
+        for (int al = 2; al >= 0; al--) {
+            for (int k = 1; k < 64; k++) {
+                String bits = al == 2 ? Stream.low(0x01, 8) + "1" : Stream.low(0, 8) + (k >> al & 1);
+                s.scan(k, k, al == 2 ? 2 : 16 * (al + 1) + al, 10).data(bits);
+            }
+        }
+        ScanDesk d = s.ended().taken("many", 1 + 3 * 63);
+        Due.is("190 are counted", d.look(8), 190);
+        for (int k = 1; k < 64; k++) {
+            Due.is("place " + k, d.coefficient(0, 0, k), 4 + (k & 3));
+            Due.is("known " + k, d.known(0, k), 0);
+        }
+        Due.is("the DC is known", d.known(0, 0), 2);
     }
 
     /** "The place of the latest read()'s FAULT; NONE without one, or ahead of any." */

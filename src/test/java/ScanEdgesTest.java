@@ -15,6 +15,7 @@ final class ScanEdgesTest {
         losslessOnce();
         tenBlocks();
         orderOfSeveral();
+        orderOfTenBlocks();
         orderOfOne();
         intervalOfMcus();
         intervalOfOne();
@@ -257,6 +258,25 @@ final class ScanEdgesTest {
             Due.is("first " + i, e.sample(0, i % 2, i / 2), first[i]);
             Due.is("second " + i, e.sample(1, i % 2, i / 2), second[i]);
         }
+    }
+
+    /** The most blocks that an MCU has: each component goes on from its own block ahead, by its own table. */
+    private static void orderOfTenBlocks() {
+        int[] other = {1, 1, 0, 0, 0, 0, 0, 0, 0, 0, 0, 0, 0, 0, 0, 0, 0, 2};
+        Stream s = Stream.begun().frame(0xC2, 8, 17, 16, 0x22, 0x21, 0x22).dcTable(0).segment(0xC4, other);
+        s.segment(0xDA, 3, 10, 0, 20, 0, 30, 0x10, 0, 0, 0);
+        String mcu = "00001 1".repeat(4) + "00001 0".repeat(2) + "0 10".repeat(4);
+        ScanDesk d = s.data(mcu.repeat(2)).ended().taken("two MCUS of ten blocks", 1);
+        int[][] due = {{1, 2, 5, 6, 3, 4, 7, 8}, {-1, -2, -3, -4}, {2, 4, 10, 12, 6, 8, 14, 16}};
+        for (int c = 0; c < 3; c++) {
+            for (int b = 0; b < due[c].length; b++) {
+                Due.is("component " + c + " block " + b, d.coefficient(c, b, 0), due[c][b]);
+            }
+        }
+        d.scan(7, 0, 0, 0, 0);
+        d.write();
+        String written = "00001 1".repeat(4) + "00001 0".repeat(2) + "00010 10".repeat(4);
+        Due.written("ten blocks", d, HEAD + 6 + 14, hex(written.repeat(2)) + "FFD9");
     }
 
     private static String hex(String bits) {
